@@ -285,8 +285,7 @@ public final class TideDiscs {
         if (!w.hasTrain()) {
             return no(THERE_IS_NONE);
         }
-        long driven = w.driven();
-        tellFraction(w.offTop(w.driving(), driven, hours), w.offBottom(driven));
+        tellFraction(w.offTop(w.driving, w.driven, hours), w.offBottom(w.driven));
         return yes();
     }
 
@@ -825,7 +824,8 @@ public final class TideDiscs {
     }
 
     private static int cosOf(long place) {
-        return COS[(int) Math.floorMod(place, (long) PLACES)];
+        int rest = (int) (place % PLACES);
+        return COS[rest < 0 ? rest + PLACES : rest];
     }
 
     /** A row of numbers. */
@@ -1062,6 +1062,8 @@ public final class TideDiscs {
         private int at;
         private int couples;
         private final int[] teeth = {1, 1, 1, 1};
+        private long driving = 1;
+        private long driven = 1;
 
         void clear(long newName) {
             name = newName;
@@ -1073,6 +1075,13 @@ public final class TideDiscs {
             for (int k = 0; k < WHEELS; k++) {
                 teeth[k] = 1;
             }
+            multiplyTeeth();
+        }
+
+        /** Both products are asked for in every HOUR, so they are kept. */
+        void multiplyTeeth() {
+            driving = (long) teeth[0] * teeth[2];
+            driven = (long) teeth[1] * teeth[3];
         }
 
         boolean hasTrain() {
@@ -1085,14 +1094,6 @@ public final class TideDiscs {
 
         int toothed(int k) {
             return k < 0 || k >= WHEELS ? 1 : teeth[k];
-        }
-
-        long driving() {
-            return (long) teeth[0] * teeth[2];
-        }
-
-        long driven() {
-            return (long) teeth[1] * teeth[3];
         }
 
         /** All driving teeth, if wheel k had so many. */
@@ -1110,13 +1111,14 @@ public final class TideDiscs {
             return hours <= 0 ? 0 : 24L * turns * hour / hours;
         }
 
-        static long turnedGone(long hour, long driving, long driven) {
-            return driven <= 0 ? 0 : hour * driving / driven;
+        /** PLACES gone by from HOUR 0 with such wheels. */
+        static long turnedGone(long hour, long drivingTeeth, long drivenTeeth) {
+            return drivenTeeth <= 0 ? 0 : hour * drivingTeeth / drivenTeeth;
         }
 
         int placeAt(long hour, boolean turned) {
-            boolean byTrain = turned && hasTrain();
-            long gone = byTrain ? turnedGone(hour, driving(), driven()) : trueGone(hour);
+            boolean byTrain = turned && couples > 0;
+            long gone = byTrain ? turnedGone(hour, driving, driven) : trueGone(hour);
             return (int) ((at + gone) % PLACES);
         }
 
@@ -1314,15 +1316,15 @@ public final class TideDiscs {
             text.advance();
             for (int k = 0; k < WHEELS; k++) {
                 if (k == 2 && !text.isNumber()) {
-                    w.couples = 1;
-                    return true;
+                    break;
                 }
                 if (!text.standsNumber(5, 200)) {
                     return false;
                 }
                 w.teeth[k] = text.taken();
+                w.couples = k / 2 + 1;
             }
-            w.couples = 2;
+            w.multiplyTeeth();
             return true;
         }
 
@@ -1500,29 +1502,21 @@ public final class TideDiscs {
         /** The first HIGH (LOW) WATER from an HOUR to another one, or NONE. */
         int nextWater(int from, int to, boolean high, boolean turned) {
             int first = Math.max(from, 1);
-            if (first > to || mostSwing() == 0) {
-                return NONE;
-            }
+            int come = NONE;
             int before = heightAt(first - 1, turned);
-            for (int hour = first; hour <= to; hour++) {
+            // nothing moves without a SIZE, and then no HOUR has to be looked at
+            int last = mostSwing() == 0 ? NONE : LAST_LOOKED_AT;
+            for (int hour = first; hour <= last && (hour <= to || come != NONE); hour++) {
                 int now = heightAt(hour, turned);
-                boolean came = high ? now > before : now < before;
-                if (came && turnsBehind(hour, now, high, turned)) {
-                    return hour;
+                boolean comes = high ? now > before : now < before;
+                if (comes) {
+                    come = hour <= to ? hour : NONE;
+                } else if (now != before && come != NONE) {
+                    return come;
                 }
                 before = now;
             }
             return NONE;
-        }
-
-        private boolean turnsBehind(int hour, int height, boolean high, boolean turned) {
-            for (int later = hour + 1; later <= LAST_LOOKED_AT; later++) {
-                int then = heightAt(later, turned);
-                if (then != height) {
-                    return high ? then < height : then > height;
-                }
-            }
-            return false;
         }
 
         long firstWornHour(int limit) {
@@ -1725,7 +1719,7 @@ public final class TideDiscs {
         }
 
         private long offNow(Wave w) {
-            return w.hasTrain() ? w.offThousandths(w.driving(), w.driven(), hours) : 0;
+            return w.hasTrain() ? w.offThousandths(w.driving, w.driven, hours) : 0;
         }
 
         private long offWith(Wave w, int k, int teeth) {
