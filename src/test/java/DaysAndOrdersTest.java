@@ -368,6 +368,10 @@ public final class DaysAndOrdersTest {
             Rig.fine("never " + never, x, x.obey(0, 99984), 99999);
             told(x, 2, 12, 0, 1);
         }
+        Rig.orders(x, "until below less 7;mark;");
+        Rig.fine("the last hour is met", x, x.obey(0, 99998), 99999);
+        told(x, 2, 0, 1, 0);
+        Rig.orders(x, "read;until above 12;mark;");
         Rig.fine("from the last hour", x, x.obey(0, 99999), 99999);
         told(x, 2, -8, 0, 1);
         // the last LOW WATER is at 99,995

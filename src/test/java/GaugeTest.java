@@ -255,6 +255,16 @@ public final class GaugeTest {
         Rig.fine("above the last hour", x, x.slipped(0, 0, 1, 1, 0), 0);
         Rig.fine("later", x, x.slip(), 2);
         // HEIGHT by 12 is rounded towards 0: -3 x 5 by 12 is -1
+        // a clock is off by 5 HOURS at the most: 6 HOURS later it would be 0, 5 HOURS later it is 3
+        x = Rig.with("wave a turns 1 in 24 size 12 train 5 5 200 5;");
+        Rig.fill(x, 0, 0);
+        Rig.fill(x, 1, 0);
+        Rig.fine("at most 5", x, x.slipped(0, 0, 1, 1, 0), 0);
+        Rig.fine("TRUE, not turned", x, x.slip(), 5);
+        Rig.fill(x, 0, 2);
+        Rig.fill(x, 1, 10);
+        Rig.fine("TRUE", x, x.slipped(0, 0, 1, 1, 1), 0);
+        Rig.fine("by 0", x, x.slip(), 0);
         x = Rig.with("wave a turns 1 in 24 size 5;");
         Rig.fill(x, 0, 7);
         Rig.fill(x, 1, -1);
@@ -314,6 +324,15 @@ public final class GaugeTest {
         // lag 1: 720 + 360 = 1080, 7.5 is 7
         Rig.fine("the lesser ratio", x, x.neighbour(0, 0, 1, 1), 1);
         Rig.fine("its lag", x, x.lag(), 1);
+        // twice as high at the most
+        Rig.machine(x, 0, "wave a turns 1 in 24 size 12 train 5 5 200 5;");
+        Rig.fill(x, 0, 2);
+        Rig.fill(x, 1, 24);
+        Rig.fine("the greatest ratio", x, x.neighbour(0, 0, 1, 1), 24);
+        Rig.fine("PLACE 1, TRUE", x, x.lag(), 1);
+        x.write(1, 0, 999);
+        Rig.fine("no greater ratio", x, x.neighbour(0, 0, 1, 1), 24);
+        Rig.fine("lag", x, x.lag(), 1);
         Rig.refused("so many", x, x.neighbour(0, 0, 1, 25), 5);
         Rig.refused("so many", x, x.neighbour(0, 0, 1, 0), 5);
         Rig.refused("too few", x, x.neighbour(0, 0, 1, 2), 4);

@@ -47,6 +47,10 @@ public final class PlacesAndTrainsTest {
             Rig.fine("true " + h, x, x.height(0, h, false), 48 + 3 * COS[h % 24] + b);
             Rig.fine("turned " + h, x, x.height(0, h, true), 48 + 3 * COS[h / 2 % 24] + b);
         }
+        Rig.machine(x, 1, "wave a turns 1 in 24 size 9; wave b turns 1 in 24 size 9; wave c turns 1 in 24 size 9;");
+        Rig.machine(x, 1, "");
+        Rig.machine(x, 1, "wave a turns 1 in 24 size 1;");
+        Rig.fine("nothing is left of those ahead", x, x.height(1, 0, false), 12);
         Rig.refused("hour -1", x, x.height(0, -1, true), 5);
         Rig.refused("hour 100000", x, x.height(0, 100000, true), 5);
         Rig.fine("last hour", x, x.height(0, 99999, false), 48 + 3 * COS[15] + 2 * COS[(2 * 99999 + 6) % 24]);
@@ -73,6 +77,7 @@ public final class PlacesAndTrainsTest {
         Rig.refused("no machine", x, x.pointer(2, 5, 4), 2);
         x = Rig.with("wave a turns 1 in 24 size 1 train 6 12;");
         Rig.fine("without slack, turned", x, x.pointer(0, 0, 6), 8);
+        Rig.fine("at once, turned", x, x.pointer(0, 6, 6), 8);
     }
 
     private static void off() {

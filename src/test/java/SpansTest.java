@@ -25,6 +25,7 @@ public final class SpansTest {
         Rig.fine("least turned", x, x.extreme(0, 12, 60, true, false), 22);
         Rig.fine("highest turned", x, x.extreme(0, 12, 60, true, true), 46);
         Rig.fine("one hour", x, x.extreme(0, 5, 5, false, true), 5);
+        Rig.fine("the last of them", x, x.extreme(0, 3, 11, false, false), 11);
         Rig.fine("2000 hours", x, x.extreme(0, 12, 2011, false, true), 23);
         Rig.fine("the last ones", x, x.extreme(0, 98000, 99999, false, true), 98015);
         Rig.refused("2001 hours", x, x.extreme(0, 12, 2012, false, true), 5);
@@ -117,6 +118,11 @@ public final class SpansTest {
         Rig.fine("over midnight", x, x.landing(0, 1, 100), 1);
         Rig.fine("over midnight", x, x.landing(0, 2, 100), 22);
         Rig.refused("not in that span", x, x.landing(0, 2, 21), 8);
+        x.ask(-12, 12, 0, false, NONE, 0, 7, 7);
+        Rig.fine("one hour of the day", x, x.landing(0, 0, 100), 7);
+        Rig.fine("one hour of the day", x, x.landing(0, 8, 31), 31);
+        x.ask(-12, 12, 0, false, 0, 0, 0, 23);
+        Rig.fine("the PLACE is TRUE", x, x.landing(0, 0, 100), 12);
         x.ask(0, 99, 0, true, 1, 4, 20, 23);
         // rising and not below 0: PLACES 18 to 22; the moon from HOUR 64 to 81: HOUR 68 is 20 o'clock
         Rig.fine("all at once", x, x.landing(0, 24, 100), 68);
@@ -186,6 +192,11 @@ public final class SpansTest {
         Rig.fine("size", x, x.spreadTold(0), 4);
         // HOUR 0 alone: 48 wanted; the least SIZE is 4, at PLACES 23, 0, 1: 0 is the least AT
         Rig.machine(x, 0, "wave a turns 1 in 24 size 4; wave b turns 1 in 24 at 9;");
+        // TRUE they go alike, whatever their TRAINS
+        Rig.machine(x, 1, "wave a turns 1 in 24 size 4 train 5 200; wave b turns 1 in 24 size 2 train 200 5;");
+        Rig.fine("TRUE", x, x.spread(1, 0, 5, 28), 1);
+        Rig.fine("size", x, x.spreadTold(0), 6);
+        Rig.fine("sum", x, x.spreadTold(2), 0);
         Rig.fine("one hour", x, x.spread(0, 0, 0, 0), 1);
         Rig.fine("size", x, x.spreadTold(0), 4);
         Rig.fine("at", x, x.spreadTold(1), 0);
@@ -224,10 +235,13 @@ public final class SpansTest {
         Rig.fine("by more than 9", x, x.compare(2, 9, 9), 2);
         Rig.fine("by more than 10", x, x.compare(2, 9, 10), NONE);
         Rig.fine("the other way", x, x.compare(2, 23, 10), 11);
+        Rig.fine("the last of them", x, x.compare(2, 11, 10), 11);
         Rig.fine("not by more than 12", x, x.compare(0, 1999, 12), NONE);
         Rig.fine("much", x, x.compare(98000, 99999, 99999), NONE);
         Rig.fine("turned", x, Rig.machine(x, 1, "wave a turns 1 in 24 size 10 train 5 10;"), 1);
         Rig.fine("turned", x, x.compare(0, 9, 0), 2);
+        Rig.machine(x, 0, "wave a turns 1 in 48 size 10 train 5 5;");
+        Rig.fine("both turned", x, x.compare(0, 9, 0), 2);
         Rig.refused("2001 hours", x, x.compare(0, 2000, 0), 5);
         Rig.refused("from behind to", x, x.compare(1, 0, 0), 5);
         Rig.refused("below 0", x, x.compare(-1, 0, 0), 5);

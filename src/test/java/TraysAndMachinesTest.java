@@ -180,6 +180,11 @@ public final class TraysAndMachinesTest {
         Rig.due("its place", x.fault(1), 4);
         Rig.due("room again", x.feed(0, 0, 0, 0, 0), 20);
         // the highest byte of each int comes first: zero 7;
+        String whole = "zero 7;" + " ".repeat(585) + "slack 9;";
+        Rig.due("all 600", whole.length(), 600);
+        x = new TideDiscs();
+        Rig.fine("all 600", x, Rig.machine(x, 0, whole), 0);
+        Rig.fine("the last ones, too", x, x.told(0, 2), 9);
         x = new TideDiscs();
         Rig.due("feed", x.feed(0x7a65726f, 0x20373b20, 0x20202020, 0xffffffff, 0xffffffff), 20);
         Rig.fine("machine", x, x.machine(1, 7), 0);
@@ -210,6 +215,8 @@ public final class TraysAndMachinesTest {
         Rig.fine("at", x, x.wave(0, 0, 3), 23);
         Rig.fine("turns", x, x.wave(0, 1, 0), 9999);
         Rig.fine("slack", x, x.told(0, 2), 99);
+        Rig.fine("names that are nearly alike", x, Rig.machine(x, 0, "wave a turns 1 in 1;wave aa turns 1 in 1;"
+            + "wave ab turns 1 in 1;wave ba turns 1 in 1;wave aaaaaaaa turns 1 in 1;wave z turns 1 in 1;"), 6);
         Rig.fine("in place of the one ahead", x, Rig.machine(x, 0, "slack 1;"), 0);
         Rig.fine("zero is gone", x, x.told(0, 3), 0);
         Rig.fine("box is gone", x, x.told(0, 1), 0);
@@ -283,6 +290,7 @@ public final class TraysAndMachinesTest {
         Rig.badMachine("box 9 of 201;", 4, 9);
         Rig.badMachine("slack 100;", 4, 6);
         Rig.badMachine("zero 9999;", 4, 5);
+        Rig.badMachine("zero 100;", 4, 5);
     }
 
     private static void faultsOfTooMany() {
