@@ -909,7 +909,7 @@ public final class TideDiscs {
         }
 
         void begin(int n) {
-            end = Math.min(n, length);
+            end = Math.max(0, Math.min(n, length));
             stop = 0;
             faultKind = 0;
             faultPlace = NONE;
@@ -919,20 +919,20 @@ public final class TideDiscs {
         /** Goes on to the next TOKEN; what is wrong with it is told when it is asked for, so that faults come in order. */
         void advance() {
             int i = stop;
-            while (i < end && isBlank(byteAt(i))) {
+            while (i < end && isBlank(bytes[i])) {
                 i++;
             }
             start = i;
-            sort = sortAt(i);
             value = 0;
+            sort = i < end ? sortOf(bytes[i]) : END;
             if (sort == SIGN) {
                 i++;
             }
-            while (sort == WORD && i < end && isLetter(byteAt(i))) {
+            while (sort == WORD && i < end && sortOf(bytes[i]) == WORD) {
                 i++;
             }
-            while (sort == NUMBER && i < end && isDigit(byteAt(i))) {
-                value = i - start < MOST_DIGITS ? value * 10 + byteAt(i) - '0' : value;
+            while (sort == NUMBER && i < end && sortOf(bytes[i]) == NUMBER) {
+                value = i - start < MOST_DIGITS ? value * 10 + bytes[i] - '0' : value;
                 i++;
             }
             if (sort == NUMBER && i - start > MOST_DIGITS) {
@@ -941,15 +941,16 @@ public final class TideDiscs {
             stop = i;
         }
 
-        private int sortAt(int i) {
-            if (i >= end) {
-                return END;
-            }
-            int b = byteAt(i);
-            if (isLetter(b)) {
+        private static boolean isBlank(int b) {
+            return b == 10 || b == 32;
+        }
+
+        /** The sort of a TOKEN that begins with this byte. */
+        private static int sortOf(int b) {
+            if (b >= 'a' && b <= 'z') {
                 return WORD;
             }
-            if (isDigit(b)) {
+            if (b >= '0' && b <= '9') {
                 return NUMBER;
             }
             return b == ';' ? SIGN : NO_TOKEN;
@@ -957,18 +958,6 @@ public final class TideDiscs {
 
         private int byteAt(int i) {
             return i < 0 || i >= MOST_BYTES ? NONE : bytes[i] & 255;
-        }
-
-        private static boolean isBlank(int b) {
-            return b == 10 || b == 32;
-        }
-
-        private static boolean isLetter(int b) {
-            return b >= 'a' && b <= 'z';
-        }
-
-        private static boolean isDigit(int b) {
-            return b >= '0' && b <= '9';
         }
 
         /** Notes a FAULT at this TOKEN; where no TOKEN begins, that is the least kind. */
@@ -1043,13 +1032,6 @@ public final class TideDiscs {
                 return refuse(FAULT_CANT_STAND);
             }
             return value >= least && value <= most || refuse(FAULT_NUMBER);
-        }
-
-        /** The NUMBER that stands here, which is gone past. */
-        int taken() {
-            int number = value;
-            advance();
-            return number;
         }
     }
 
@@ -1165,8 +1147,10 @@ public final class TideDiscs {
 
     /** WAVES, the BOX, SLACK and ZERO. */
     private static final class Machine {
-        private static final int SIZE_TOLD = 1;
-        private static final int AT_TOLD = 2;
+        // SETTINGS as bits, for a wave has each of them once at the most
+        private static final int SIZE = 1;
+        private static final int AT = 2;
+        private static final int TRAIN = 4;
 
         private final Wave[] waves;
         private int waveCount;
@@ -1253,67 +1237,60 @@ public final class TideDiscs {
             if (!text.takesWord("turns") || !text.standsNumber(1, 9999)) {
                 return false;
             }
-            w.turns = text.taken();
+            w.turns = text.value;
+            text.advance();
             if (!text.takesWord("in") || !text.standsNumber(1, 9999)) {
                 return false;
             }
-            w.hours = text.taken();
+            w.hours = text.value;
+            text.advance();
             return true;
         }
 
         private static boolean readsSettings(Tokens text, Wave w) {
             int told = 0;
             for (int i = 0; i <= MOST_BYTES; i++) {
-                if (text.isWord("size")) {
-                    if (!readsSize(text, w, told)) {
-                        return false;
-                    }
-                    told |= SIZE_TOLD;
-                } else if (text.isWord("at")) {
-                    if (!readsAt(text, w, told)) {
-                        return false;
-                    }
-                    told |= AT_TOLD;
-                } else if (text.isWord("train")) {
-                    if (!readsTrain(text, w)) {
-                        return false;
-                    }
-                } else {
+                int setting = settingOf(text);
+                if (setting == 0) {
                     return text.takesSign();
+                }
+                if ((told & setting) != 0) {
+                    return text.refuse(Tokens.FAULT_AGAIN);
+                }
+                told |= setting;
+                text.advance();
+                boolean read = setting == TRAIN ? readsTrain(text, w) : readsNumber(text, w, setting);
+                if (!read) {
+                    return false;
                 }
             }
             return text.refuse(Tokens.FAULT_CANT_STAND);
         }
 
-        private static boolean readsSize(Tokens text, Wave w, int told) {
-            if ((told & SIZE_TOLD) != 0) {
-                return text.refuse(Tokens.FAULT_AGAIN);
+        private static int settingOf(Tokens text) {
+            if (text.isWord("size")) {
+                return SIZE;
             }
-            text.advance();
-            if (!text.standsNumber(0, 99)) {
-                return false;
+            if (text.isWord("at")) {
+                return AT;
             }
-            w.size = text.taken();
-            return true;
+            return text.isWord("train") ? TRAIN : 0;
         }
 
-        private static boolean readsAt(Tokens text, Wave w, int told) {
-            if ((told & AT_TOLD) != 0) {
-                return text.refuse(Tokens.FAULT_AGAIN);
-            }
-            text.advance();
-            if (!text.standsNumber(0, 23)) {
+        private static boolean readsNumber(Tokens text, Wave w, int setting) {
+            if (!text.standsNumber(0, setting == SIZE ? 99 : 23)) {
                 return false;
             }
-            w.at = text.taken();
+            if (setting == SIZE) {
+                w.size = text.value;
+            } else {
+                w.at = text.value;
+            }
+            text.advance();
             return true;
         }
 
         private static boolean readsTrain(Tokens text, Wave w) {
-            if (w.hasTrain()) {
-                return text.refuse(Tokens.FAULT_AGAIN);
-            }
-            text.advance();
             for (int k = 0; k < WHEELS; k++) {
                 if (k == 2 && !text.isNumber()) {
                     break;
@@ -1321,8 +1298,9 @@ public final class TideDiscs {
                 if (!text.standsNumber(5, 200)) {
                     return false;
                 }
-                w.teeth[k] = text.taken();
+                w.teeth[k] = text.value;
                 w.couples = k / 2 + 1;
+                text.advance();
             }
             w.multiplyTeeth();
             return true;
@@ -1336,7 +1314,8 @@ public final class TideDiscs {
             if (!text.standsNumber(0, 9)) {
                 return false;
             }
-            int many = text.taken();
+            int many = text.value;
+            text.advance();
             if (!text.takesWord("of") || !text.standsNumber(5, 200)) {
                 return false;
             }
@@ -1344,8 +1323,9 @@ public final class TideDiscs {
                 return text.refuse(Tokens.FAULT_TOO_MANY);
             }
             kindWheels[kindCount] = many;
-            kindTeeth[kindCount] = text.taken();
+            kindTeeth[kindCount] = text.value;
             kindCount++;
+            text.advance();
             return text.takesSign();
         }
 
@@ -1366,7 +1346,8 @@ public final class TideDiscs {
             if (!text.standsNumber(0, 99)) {
                 return false;
             }
-            slack = text.taken();
+            slack = text.value;
+            text.advance();
             return text.takesSign();
         }
 
@@ -1378,7 +1359,8 @@ public final class TideDiscs {
             if (!text.standsNumber(0, 99)) {
                 return false;
             }
-            zero = text.taken();
+            zero = text.value;
+            text.advance();
             return text.takesSign();
         }
 
@@ -2190,7 +2172,8 @@ public final class TideDiscs {
             if (!text.standsNumber(least, most)) {
                 return false;
             }
-            numbers[rows] = text.taken();
+            numbers[rows] = text.value;
+            text.advance();
             return true;
         }
 
@@ -2288,7 +2271,7 @@ public final class TideDiscs {
                     break;
                 default:
                     roundsLeft[row] = 1;
-                    next = isLevel(hour, program.tests[row], number) ? next : program.partners[row] + 1;
+                    next = isLevel(program.tests[row], number) ? next : program.partners[row] + 1;
                     break;
             }
             row = next;
@@ -2306,8 +2289,8 @@ public final class TideDiscs {
             }
         }
 
-        private boolean isLevel(int atHour, int test, int number) {
-            int height = machine.heightAt(atHour, true);
+        private boolean isLevel(int test, int number) {
+            int height = machine.heightAt(hour, true);
             return test == Orders.ABOVE ? height > number : height < number;
         }
 
@@ -2330,7 +2313,8 @@ public final class TideDiscs {
 
         private int nextLevel(int test, int number) {
             for (int later = hour + 1; later <= LAST_HOUR; later++) {
-                if (isLevel(later, test, number)) {
+                int height = machine.heightAt(later, true);
+                if (test == Orders.ABOVE ? height > number : height < number) {
                     return later;
                 }
             }

@@ -65,12 +65,7 @@ public final class FaceTest {
         Constructor<?>[] constructors = c.getDeclaredConstructors();
         check(constructors.length == 1 && Modifier.isPublic(constructors[0].getModifiers())
             && constructors[0].getParameterCount() == 0, "one public constructor");
-        Set<String> open = new TreeSet<>();
-        for (Method m : c.getDeclaredMethods()) {
-            if (Modifier.isPublic(m.getModifiers())) {
-                open.add(m.getName());
-            }
-        }
+        Set<String> open = publicNames();
         for (Method m : c.getDeclaredMethods()) {
             boolean isPrivate = Modifier.isPrivate(m.getModifiers());
             check(isPrivate || Modifier.isPublic(m.getModifiers()), "method " + m.getName() + " can be seen");
@@ -80,6 +75,16 @@ public final class FaceTest {
             check(f.getName().equals("NONE") == !Modifier.isPrivate(f.getModifiers()), "field " + f.getName());
         }
         check(c.getField("NONE").getInt(null) == -1, "NONE");
+    }
+
+    private static Set<String> publicNames() {
+        Set<String> open = new TreeSet<>();
+        for (Method m : TideDiscs.class.getDeclaredMethods()) {
+            if (Modifier.isPublic(m.getModifiers())) {
+                open.add(m.getName());
+            }
+        }
+        return open;
     }
 
     private static void nested() {
@@ -100,6 +105,7 @@ public final class FaceTest {
             for (Method m : c.getDeclaredMethods()) {
                 boolean open = c == TideDiscs.class && Modifier.isPublic(m.getModifiers());
                 check(open || m.getParameterCount() <= 7, m.getName() + " takes too much");
+                check(c == TideDiscs.class || !publicNames().contains(m.getName()), m.getName() + " bears a public name");
                 check(!m.isSynthetic(), "a lambda or bridge: " + m.getName());
             }
         }
