@@ -1,14 +1,38 @@
+import java.io.IOException;
+import java.io.UncheckedIOException;
+import java.nio.charset.StandardCharsets;
+import java.nio.file.Files;
+import java.nio.file.Path;
+
 /** What the tests of the promises have in common: texts come on the tape, answers are held against what is due. */
 final class Rig {
     private static int wrong = 0;
     private static int asked = 0;
     private static String promise = "";
+    private static String document = null;
 
     private Rig() {
     }
 
     static void promise(int number) {
         promise = "promise " + number + ": ";
+    }
+
+    /** The words of the document that the answers from here on are held against; it must have these very words. */
+    static void says(String words) {
+        if (document == null) {
+            document = documentText();
+        }
+        promise = "[" + words + "] ";
+        due("the document says so", document.contains(words), true);
+    }
+
+    private static String documentText() {
+        try {
+            return Files.readString(Path.of("../shared/DOC.md"), StandardCharsets.UTF_8).replaceAll("\\s+", " ");
+        } catch (IOException e) {
+            throw new UncheckedIOException(e);
+        }
     }
 
     static void due(String what, long got, long want) {
