@@ -46,6 +46,7 @@ public final class GaugeEdgesTest {
         neighbourOfSeveral();
         lagTold();
         ledByATooth();
+        ledRounded();
         ledOfSeveral();
         ledByNone();
         wheelTold();
@@ -356,6 +357,16 @@ public final class GaugeEdgesTest {
         Rig.fraction("cos", x, 1, 3);
         Rig.fine("mean", x, x.settings(0, 0, 0, 0, 1, 4, 0));
         Rig.fraction("mean", x, 6, 1);
+        // readings that come to -1, 0 and 1 together
+        for (int sum = -1; sum <= 1; sum++) {
+            x = with("wave a turns 1 in 24;", row(0, 6, 12, 18), row(5, sum, -5, 0));
+            Rig.fine("mean", x, x.settings(0, 0, 0, 0, 1, 4, 0));
+            Rig.fraction("mean", x, sum, sum == 0 ? 1 : 4);
+            Rig.fine("sin", x, x.settings(0, 0, 0, 0, 1, 4, 2));
+            Rig.fraction("sin", x, sum, sum == 0 ? 1 : 24);
+            Rig.fine("cos", x, x.settings(0, 0, 0, 0, 1, 4, 1));
+            Rig.fraction("cos", x, 5, 12);
+        }
     }
 
     private static void settingsGreatest() {
@@ -527,6 +538,14 @@ public final class GaugeEdgesTest {
         Furnished.none(5, "so many ahead of 4", x -> x.changed(0, 0, 0, 0, 1, 0, Furnished.EMPTY_TRAY, 25, 0));
         Furnished.none(4, "too few then, ahead of a number now", x -> x.write(0, 0, -1),
             x -> x.changed(0, 0, 0, 0, 1, 0, 2, READINGS, 0));
+        // a number of either GAUGE, if the other one is fine
+        for (int[] bad : new int[][] {{0, -1}, {0, 100000}, {1, -1000}, {1, 1001}}) {
+            TideDiscs y = changing(row(5, 5, 5, 5), row(9, 8, 7, 6));
+            y.write(bad[0], 3, bad[1]);
+            Rig.refused("a number of the first", y, y.changed(0, 0, 0, 0, 1, 2, 3, 4, 0), 5);
+            Rig.refused("a number of the second", y, y.changed(0, 0, 0, 2, 3, 0, 1, 4, 0), 5);
+            Rig.fine("not of the first three", y, y.changed(0, 0, 0, 0, 1, 2, 3, 3, 0), 0);
+        }
         // TRAY 2 has 64 bits; a reading of 1 << 40 is asked ahead of 9
         Furnished.none(5, "a number then, ahead of not parted now", x -> x.changed(0, 0, 0, 0, 1, 0, 2, 3, 0));
         Furnished.none(9, "not parted now", x -> x.write(1, 0, GAP), x -> x.changed(0, 0, 0, 0, 1, 0, 0, 3, 0));
@@ -847,13 +866,36 @@ public final class GaugeEdgesTest {
     private static String trains(int[][] wheels) {
         StringBuilder s = new StringBuilder("zero 3;");
         for (int w = 0; w < wheels.length; w++) {
-            s.append("wave ").append((char) ('a' + w)).append(" turns 1 in 24 size ").append(90 - 20 * w).append(" train");
+            s.append("wave ").append((char) ('a' + w)).append(" turns 1 in 24 at ").append(5 + w).append(" size ").append(90 - 20 * w).append(" train");
             for (int teeth : wheels[w]) {
                 s.append(' ').append(teeth);
             }
             s.append(";");
         }
         return s.toString();
+    }
+
+    private static void ledRounded() {
+        Rig.says("the sum of sizes of differences between what was read (a GAUGE) and HEIGHT TURNED by 12 (rounded towards 0) is least");
+        // HOUR 20: 6 x 12 and 99 x 12 by 12 is 105, with 11 by 10 109
+        TideDiscs x = with("wave a turns 1 in 24 size 12 train 10 10; zero 99;", row(20), row(109));
+        Rig.fine("109", x, x.led(0, 0, 1, 1), 0);
+        Rig.fine("a tooth more", x, x.wheel(1), 1);
+        // in HOUR 0 no wheel has turned: none is better than none
+        x = with("wave a turns 1 in 24 size 11 train 10 10;", row(0), row(11));
+        Rig.fine("132 by 12 is 11", x, x.led(0, 0, 1, 1), NONE);
+        x = with("wave a turns 1 in 24 size 11 train 10 10;", row(0), row(999));
+        Rig.fine("far off, with any wheel", x, x.led(0, 0, 1, 1), NONE);
+        // better by one is better: HOUR 22, PLACE 22, 60 by 12; with 11 by 10 PLACE 0, 72 by 12
+        x = with("wave a turns 1 in 24 size 6 train 10 10;", row(22), row(6));
+        Rig.fine("by one", x, x.led(0, 0, 1, 1), 0);
+        Rig.fine("a tooth more", x, x.wheel(1), 1);
+        // what other calls came to is no matter
+        x = with("wave a turns 1 in 24 size 12 train 10 10;", row(20, 20), row(999, -999));
+        x.neighbour(0, 0, 1, 2);
+        x.slipped(0, 0, 1, 2, 1);
+        Rig.fill(x, 1, 6, 6);
+        Rig.fine("it is right", x, x.led(0, 0, 1, 2), NONE);
     }
 
     private static void ledOfSeveral() {
@@ -898,6 +940,16 @@ public final class GaugeEdgesTest {
         Rig.fine("no wave", x, x.led(0, 0, 1, 1), NONE);
         Rig.refused("no wheel", x, x.wheel(0), 8);
         Rig.refused("no wheel", x, x.wheel(1), 8);
+        // a WAVE of a MACHINE ahead has no wheel in this one: its 11 by 10 would meet the 10 in HOUR 20
+        for (int i = 0; i < 3; i++) {
+            Rig.machine(x, 0, "wave a turns 1 in 24 size 12; wave b turns 1 in 24 size 12 train 10 10;");
+        }
+        Rig.machine(x, 0, "wave a turns 1 in 24 size 12;");
+        Rig.fill(x, 0, 20);
+        Rig.fill(x, 1, 10);
+        Rig.fine("no train", x, x.led(0, 0, 1, 1), NONE);
+        Rig.machine(x, 0, "wave a turns 1 in 24 size 12;");
+        Rig.fine("no train", x, x.led(0, 0, 1, 1), NONE);
         // HEIGHT TURNED by 12 is rounded towards 0: 5 x -3 by 12 is -1
         x = with("wave a turns 1 in 12 size 5 train 10 10;", row(7), row(-1));
         Rig.fine("-1.25 is -1", x, x.led(0, 0, 1, 1), NONE);

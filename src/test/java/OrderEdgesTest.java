@@ -332,6 +332,7 @@ public final class OrderEdgesTest {
             x.obey(0, 0);
             told(x, 1 + 2 + 4 + 8, 0, 8, 0);
         }
+        leftInALoop();
         // a MACHINE is no ORDERS, and ORDERS are no MACHINE
         Rig.fine("machine", x, Rig.machine(x, 0, "zero 1;"), 0);
         Rig.fine("the orders stay", x, x.obey(0, 0), 0);
@@ -343,6 +344,26 @@ public final class OrderEdgesTest {
         told(x, 1, 12, 0, 0);
         x.obey(1, 0);
         told(x, 1, 0, 0, 0);
+    }
+
+    /** What was left within a loop is no matter to ORDERS that come in its place. */
+    private static void leftInALoop() {
+        String[] next = {"when below 99;mark;end;", "mark;mark;", "loop 1;mark;mark;end;", "mark;when below 99;mark;end;read;"};
+        int[] steps = {2, 2, 3, 4};
+        for (int n = 0; n < next.length; n++) {
+            TideDiscs x = Rig.with(COS_WAVE);
+            for (int i = 0; i < 4; i++) {
+                Rig.orders(x, i % 2 == 0 ? "loop 9;go 9999;end;loop 9;end;" : "mark;loop 9;go 9999;end;");
+                Rig.fine("over in its loop", x, x.obey(0, 99990), LAST);
+                // rows are used in turn, so others come between
+                Rig.orders(x, i < 2 ? next[n] : "mark;loop 9;loop 9;go 9999;end;end;");
+                x.obey(0, 99990);
+                Rig.orders(x, next[n]);
+                Rig.fine("obey", x, x.obey(0, 99990), 99990);
+                Rig.fine("steps", x, x.obeyed(0), steps[n]);
+                Rig.fine("left", x, x.obeyed(3), 0);
+            }
+        }
     }
 
     // ---- promise 47

@@ -4,7 +4,9 @@ import java.util.Random;
 
 /** Runs of calls, drawn with fixed seeds, on TideDiscs and on the PlainModel: every answer and STATUS must be alike. */
 public final class RandomRunsTest {
-    private static final int CALLS = 512;
+    /** An object is used for at most 512 calls, status(), top() and bottom() among them; one drawing takes at most 150. */
+    private static final int CALLS_OF_A_DRAWING = 150;
+    private static final int CALLS = 512 - CALLS_OF_A_DRAWING;
     private static final int MOST_SHOWN = 20;
 
     private static int wrong = 0;
@@ -14,7 +16,7 @@ public final class RandomRunsTest {
     private final int seed;
     private final TideDiscs is = new TideDiscs();
     private final PlainModel due = new PlainModel();
-    private final List<String> told = new ArrayList<>();
+    private int made = 0;
 
     private RandomRunsTest(int seed) {
         this.seed = seed;
@@ -22,7 +24,7 @@ public final class RandomRunsTest {
     }
 
     public static void main(String[] args) {
-        int runs = args.length > 0 ? Integer.parseInt(args[0]) : 120;
+        int runs = args.length > 0 ? Integer.parseInt(args[0]) : 300;
         int first = args.length > 1 ? Integer.parseInt(args[1]) : 1;
         for (int seed = first; seed < first + runs && wrong < MOST_SHOWN; seed++) {
             new RandomRunsTest(seed).run();
@@ -34,34 +36,49 @@ public final class RandomRunsTest {
     }
 
     private void run() {
-        int made = 0;
         drawMachine();
         drawMachine();
         drawGauge();
         while (made < CALLS && wrong < MOST_SHOWN) {
-            int before = told.size();
+            int before = made;
             drawCall();
-            made += told.size() - before;
+            sameFraction();
+            if (made > before + CALLS_OF_A_DRAWING) {
+                fail("a drawing took " + (made - before) + " calls");
+            }
         }
-        calls += told.size();
+        calls += made;
     }
 
-    private void same(String call, long got, long want) {
-        told.add(call);
+    /** The answer alone, for calls that come in rows. */
+    private void alike(String call, long got, long want) {
+        made++;
         if (got != want) {
             fail(call + " answered " + got + ", due is " + want);
         }
-        if (is.status() != due.status()) {
-            fail(call + " has status " + is.status() + ", due is " + due.status());
+    }
+
+    private void same(String call, long got, long want) {
+        alike(call, got, want);
+        made++;
+        int status = is.status();
+        if (status != due.status()) {
+            fail(call + " has status " + status + ", due is " + due.status());
         }
-        if (is.top() != due.top() || is.bottom() != due.bottom()) {
-            fail(call + " tells " + is.top() + "/" + is.bottom() + ", due is " + due.top() + "/" + due.bottom());
+    }
+
+    private void sameFraction() {
+        made += 2;
+        long top = is.top();
+        long bottom = is.bottom();
+        if (top != due.top() || bottom != due.bottom()) {
+            fail("the fraction is " + top + "/" + bottom + ", due is " + due.top() + "/" + due.bottom());
         }
     }
 
     private void fail(String what) {
         wrong++;
-        System.out.println("seed " + seed + ", call " + told.size() + ": " + what);
+        System.out.println("seed " + seed + ", call " + made + ": " + what);
     }
 
     private static long flag(boolean b) {
@@ -124,7 +141,7 @@ public final class RandomRunsTest {
                 int b = i + j < text.length() ? text.charAt(i + j) & 255 : 32;
                 five[j / 4] = five[j / 4] << 8 | b;
             }
-            same("feed", is.feed(five[0], five[1], five[2], five[3], five[4]),
+            alike("feed", is.feed(five[0], five[1], five[2], five[3], five[4]),
                 due.feed(five[0], five[1], five[2], five[3], five[4]));
         }
     }
@@ -368,13 +385,12 @@ public final class RandomRunsTest {
             int by = i < slipAt ? 0 : slip;
             int h = Math.max(0, Math.min(99999, hour + (move == 0 ? by : 0)));
             int v = due.height(m, h, turned) / 12 + (i < slipAt ? 0 : move) + (noise == 0 ? 0 : random.nextInt(2 * noise + 1) - noise);
-            is.height(m, h, turned);
             if (gaps && random.nextInt(5) == 0) {
                 v = 1000;
             }
             int written = rarely() && rarely() ? 1001 : v;
-            same("write", flag(is.write(t, i, hour)), flag(due.write(t, i, hour)));
-            same("write", flag(is.write(t + 1, i, written)), flag(due.write(t + 1, i, written)));
+            alike("write", flag(is.write(t, i, hour)), flag(due.write(t, i, hour)));
+            alike("write", flag(is.write(t + 1, i, written)), flag(due.write(t + 1, i, written)));
         }
     }
 
@@ -577,7 +593,6 @@ public final class RandomRunsTest {
         int bad = random.nextInt(8);
         for (int i = 0; i < many; i++) {
             int v = due.height(m, from + i, true) + (i == bad ? 1 : 0);
-            is.height(m, from + i, true);
             same("write", flag(is.write(4, i, v)), flag(due.write(4, i, v)));
         }
         same("table " + m + " 4 " + from + " " + many, is.table(m, 4, from, many), due.table(m, 4, from, many));

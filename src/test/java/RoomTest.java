@@ -9,23 +9,22 @@ public final class RoomTest {
     private static int wrong = 0;
 
     public static void main(String[] args) {
-        TideDiscs[] kept = new TideDiscs[1];
-        new TideDiscs();
+        // three objects, for each of them is used for 512 calls at the most
+        TideDiscs[] kept = {new TideDiscs(), new TideDiscs(), null};
         long before = allocated();
-        kept[0] = new TideDiscs();
+        kept[2] = new TideDiscs();
         long made = allocated() - before;
         check("a new object takes " + made + " bytes", made <= MOST_BYTES_OF_AN_OBJECT);
 
-        TideDiscs x = kept[0];
         int[][] machine = ints("wave a turns 2 in 25 size 50 train 31 30 7 11; wave b turns 1 in 24 size 40 train 9 9;"
             + "wave c turns 1 in 12 size 9; box 2 of 10; box 2 of 20; box 3 of 7; slack 2; zero 3;");
         int[][] program = ints("loop 3;until high;mark;when above less 5;read;end;until below 3;end;until above 9999;");
         // the first time brings the program's own texts in
-        long sum = everything(x, machine, program);
+        long sum = everything(kept[0], machine, program);
         allocated();
         before = allocated();
-        sum += everything(x, machine, program);
-        sum += everything(x, machine, program);
+        sum += everything(kept[1], machine, program);
+        sum += everything(kept[2], machine, program);
         long taken = allocated() - before;
         check("calls took " + taken + " bytes (answers come to " + sum + ")", taken <= 256);
         System.out.println("a new object takes " + made + " bytes, its calls " + taken);

@@ -460,7 +460,11 @@ public final class SpanEdgesTest {
         x = Rig.with("wave a turns 1 in 24 size 3; wave b turns 1 in 1 at 6;");
         Rig.fine("standing still", x, x.spread(0, 0, 0, 0), 1);
         spreadBy(x, 1, 3, 0, 0);
-        // HOURS 6 and 18: 0 and 0, whatever is set would be worse
+        // HOURS 4 and 5: 72 and 36 are wanted, and all from 36 to 72 do as well: 3 x 12 is the least SIZE
+        x = Rig.with("wave a turns 1 in 24 size 12; wave b turns 1 in 1 at 6;");
+        Rig.fine("any of several sizes", x, x.spread(0, 0, 4, 5), 1);
+        spreadBy(x, 1, 3, 0, 36);
+        // HOUR 6: 0 is wanted, and there
         Rig.fine("none is as good as size 0", x, x.spread(0, 0, 6, 6), NONE);
     }
 
@@ -468,6 +472,9 @@ public final class SpanEdgesTest {
         Rig.says("SPREAD: the WAVE set anew; STATUS 0 also with NONE: none (2; 5).");
         TideDiscs x = Rig.with("wave a turns 1 in 24 size 5;");
         Rig.fine("no other", x, x.spread(0, 0, 0, 23), NONE);
+        spreadBy(x, NONE, 0, 0, 5 * 180);
+        x = Rig.with("wave a turns 1 in 24 size 5 train 5 200;");
+        Rig.fine("no other, true", x, x.spread(0, 0, 0, 23), NONE);
         spreadBy(x, NONE, 0, 0, 5 * 180);
         x = Rig.with("wave a turns 1 in 24; wave b turns 1 in 24 size 5;");
         Rig.fine("broken without a size", x, x.spread(0, 0, 0, 23), NONE);

@@ -20,6 +20,7 @@ public final class TextEdgesTest {
         digits();
         names();
         keptWords();
+        nearlyWords();
         textEnds();
         cutShort();
         firstFault();
@@ -296,6 +297,25 @@ public final class TextEdgesTest {
             if (!word.equals("wave") && !word.equals("box") && !word.equals("slack") && !word.equals("zero")) {
                 bad(2, "^" + word + " 5;");
             }
+        }
+    }
+
+    private static void nearlyWords() {
+        Rig.says("PART: wave NAME turns NUMBER in NUMBER {SETTING} ; or box NUMBER of NUMBER ; or slack NUMBER ; or zero NUMBER ;");
+        String[] texts = {"^wave m turns 1 in 24;", "wave m ^turns 1 in 24;", "wave m turns 1 ^in 24;", WAVE + " ^size 5;", WAVE + " ^at 5;",
+            WAVE + " ^train 5 5;", "^box 1 of 5;", "box 1 ^of 5;", "^slack 5;", "^zero 5;"};
+        for (String text : texts) {
+            int from = text.indexOf('^') + 1;
+            int to = text.indexOf(' ', from);
+            for (int i = from; i < to; i++) {
+                // another letter, a letter less, a letter more
+                bad(2, text.substring(0, i) + (text.charAt(i) == 'q' ? 'x' : 'q') + text.substring(i + 1));
+                bad(2, text.substring(0, i) + 'q' + text.substring(i));
+                if (to - from > 1) {
+                    bad(2, text.substring(0, i) + text.substring(i + 1));
+                }
+            }
+            bad(2, text.substring(0, to) + 's' + text.substring(to));
         }
     }
 
@@ -619,18 +639,21 @@ public final class TextEdgesTest {
     private static void nothingLeftOfThatAhead() {
         Rig.says("A MACHINE that is taken is there in place of that ahead.");
         for (int m = 0; m < 2; m++) {
-            TideDiscs x = new TideDiscs();
             // machines come in turn to rows that are used again
-            for (int i = 0; i < 2; i++) {
-                Rig.fine("full", x, Rig.machine(x, m, fullText()), 6);
-                Rig.fine("bare", x, Rig.machine(x, m, waves(6)), 6);
+            for (int full = 1; full <= 3; full++) {
+                TideDiscs x = new TideDiscs();
+                for (int i = 0; i < full; i++) {
+                    Rig.fine("full", x, Rig.machine(x, m, fullText()), 6);
+                }
+                Rig.fine("bare", x, Rig.machine(x, m, waves(3)), 3);
                 bare(x, m);
                 Rig.refused("faulty", x, Rig.machine(x, m, fullText() + "#"), 10);
                 bare(x, m);
-                Rig.fine("bare behind a faulty one", x, Rig.machine(x, m, waves(5)), 5);
+                Rig.fine("bare behind a faulty one", x, Rig.machine(x, m, waves(6)), 6);
                 bare(x, m);
             }
         }
+        asIfItWereTheFirst();
         // one couple in place of two
         TideDiscs x = good(WAVE + " train 5 6 7 8;", 1);
         for (int i = 0; i < 2; i++) {
@@ -642,6 +665,53 @@ public final class TextEdgesTest {
             Rig.fine("it turns by one couple", x, x.place(0, 0, 10, true), 9);
             Rig.refused("no wheel 2", x, x.worn(0, 0, 2, 24), 8);
         }
+    }
+
+    /** A small MACHINE behind full ones tells what it tells in a new object. */
+    private static void asIfItWereTheFirst() {
+        String small = "wave a turns 1 in 24 size 36 train 10 10; box 1 of 20; box 1 of 10;";
+        TideDiscs x = new TideDiscs();
+        TideDiscs y = new TideDiscs();
+        for (int m = 0; m < 2; m++) {
+            for (int i = 0; i < 3; i++) {
+                Rig.fine("full", x, Rig.machine(x, m, fullText()), 6);
+            }
+            for (int i = 0; i < 2; i++) {
+                Rig.fine("small", x, Rig.machine(x, m, small), 1);
+                Rig.fine("small", y, Rig.machine(y, m, small), 1);
+            }
+        }
+        for (TideDiscs z : new TideDiscs[] {x, y}) {
+            Rig.fill(z, 0, 100, 107, 113, 120, 126, 131);
+            Rig.fill(z, 1, -20, 30, -10, 36, 12, -36);
+            Rig.orders(z, "until above 400;mark;until high;mark;read;until above 9999;");
+        }
+        for (int m = 0; m < 2; m++) {
+            for (int hour = 0; hour < 30; hour += 7) {
+                Rig.due("place", x.place(m, 0, hour, true), y.place(m, 0, hour, true));
+                Rig.due("height", x.height(m, hour, true), y.height(m, hour, true));
+                Rig.due("height", x.height(m, hour, false), y.height(m, hour, false));
+                Rig.due("pointer", x.pointer(m, 0, hour), y.pointer(m, 0, hour));
+                Rig.due("bounds", x.bounds(m, hour, 2, 0), y.bounds(m, hour, 2, 0));
+                Rig.due("bounds", x.bounds(m, hour, 5, 1), y.bounds(m, hour, 5, 1));
+            }
+            Rig.due("train", x.train(m, 0, 1), y.train(m, 0, 1));
+            Rig.due("share", x.share(m, 1, 99, 1), y.share(m, 1, 99, 1));
+            Rig.due("a clock", x.slipped(m, 0, 1, 6, 0), y.slipped(m, 0, 1, 6, 0));
+            Rig.due("slip", x.slip(), y.slip());
+            Rig.due("neighbour", x.neighbour(m, 0, 1, 6), y.neighbour(m, 0, 1, 6));
+            Rig.due("lag", x.lag(), y.lag());
+            Rig.due("led", x.led(m, 0, 1, 6), y.led(m, 0, 1, 6));
+            Rig.due("spread", x.spread(m, 0, 0, 23), y.spread(m, 0, 0, 23));
+            Rig.due("spread", x.spreadTold(2), y.spreadTold(2));
+            Rig.due("waters", x.waters(m, 1, true, true), y.waters(m, 1, true, true));
+            Rig.due("range", x.range(m, 1, true), y.range(m, 1, true));
+            Rig.due("lasts", x.lasts(m, 100), y.lasts(m, 100));
+            Rig.due("obey", x.obey(m, 9), y.obey(m, 9));
+            Rig.due("marked", x.marked(1), y.marked(1));
+        }
+        Rig.due("trade", x.trade(1000), y.trade(1000));
+        Rig.due("compare", x.compare(0, 1999, 0), y.compare(0, 1999, 0));
     }
 
     // ---- promise 11

@@ -329,6 +329,16 @@ public final class TrainEdgesTest {
         shared(x, 6, 5);
         Rig.fine("two", x, x.share(0, 3, 99, 0), 38);
         shared(x, 6, 20, 5, 7);
+        // a tooth less is fewer
+        x = Rig.with(ONE_A_HOUR + "box 1 of 10; box 1 of 12; box 1 of 11;");
+        Rig.fine("one less", x, x.share(0, 1, 99, 0), 21);
+        shared(x, 10, 11);
+        // what was shared by more WAVES ahead is no matter
+        x = Rig.with(ONE_A_HOUR + "wave b turns 1 in 24; wave c turns 1 in 24; box 1 of 100; box 1 of 102; box 1 of 101; box 9 of 200;");
+        int[][] sets = {{7, 903}, {1, 201}, {7, 903}, {3, 503}, {1, 201}, {3, 503}, {7, 903}};
+        for (int[] s : sets) {
+            Rig.fine("set " + s[0], x, x.share(0, s[0], 99, 0), s[1]);
+        }
         // 20 by 10 for b would leave 40 by 40 to a; 40 by 20 for b and 10 by 10 for a are fewer together
         x = Rig.with("wave a turns 1 in 24; wave b turns 2 in 24; box 2 of 40; box 2 of 10; box 1 of 20;");
         Rig.fine("more teeth for one of them", x, x.share(0, 3, 0, 1), 80);
