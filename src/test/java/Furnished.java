@@ -177,6 +177,15 @@ final class Furnished {
         leftAsItWas(what, x, first);
     }
 
+    /** A call that is taken, and changes nothing but STATUS. */
+    static void tellsAlone(String what, ToLongFunction<TideDiscs> call) {
+        TideDiscs x = make();
+        x.told(2, 0);
+        call.applyAsLong(x);
+        Rig.due("status of " + what, x.status(), 0);
+        leftAsItWas(what, x, y -> { });
+    }
+
     /** A machine() or orders() with a FAULT: the tape is empty then and fault() tells it, and nothing else changes. */
     static void faulty(String what, ToLongFunction<TideDiscs> call, int kind, int place) {
         TideDiscs x = make();

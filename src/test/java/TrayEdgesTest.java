@@ -1,3 +1,5 @@
+import java.util.function.ToLongFunction;
+
 /** The edges of promises 1 to 8: a new object, STATUS, the FRACTION, TRAYS. */
 public final class TrayEdgesTest {
     private static final int NONE = TideDiscs.NONE;
@@ -13,6 +15,8 @@ public final class TrayEdgesTest {
         nothingToldYet();
         objectsApart();
         statusOfTheLatest();
+        statusOfACallThatIsTaken();
+        callsThatTellAlone();
         fraction();
         trayNumbers();
         traySorts();
@@ -160,6 +164,84 @@ public final class TrayEdgesTest {
         Rig.fine("a call that is taken", x, x.tray(4, 0, 0));
         x.feed(0, 0, 0, 0, 0);
         Rig.due("feed() that gives NONE", x.status(), 0);
+    }
+
+    private static void taken(String what, ToLongFunction<TideDiscs> call) {
+        TideDiscs x = Furnished.make();
+        x.told(2, 0);
+        Rig.due("refused ahead of " + what, x.status(), 2);
+        call.applyAsLong(x);
+        Rig.due("status of " + what, x.status(), 0);
+    }
+
+    private static long flag(boolean b) {
+        return b ? 1 : 0;
+    }
+
+    /** Calls that change something; STATUS is 0, whatever it was. */
+    private static void statusOfACallThatIsTaken() {
+        Rig.says("0 else.");
+        int many = Furnished.READINGS;
+        taken("tray", x -> flag(x.tray(4, 0, 0)));
+        taken("write", x -> flag(x.write(0, 0, 0)));
+        taken("pour", x -> flag(x.pour(0, 0, 1, 0, many)));
+        taken("pour of none", x -> flag(x.pour(0, 0, 1, 0, 0)));
+        taken("machine", x -> x.machine(0, 20));
+        taken("machine of none", x -> x.machine(1, 0));
+        taken("set", x -> flag(x.set(0, 0, 1, 1)));
+        taken("off", x -> flag(x.off(0, 0, 1)));
+        taken("train", x -> x.train(0, 0, 1));
+        taken("share", x -> x.share(0, 1, 99, 1));
+        taken("settings", x -> flag(x.settings(0, 0, 0, 0, 1, many, 0)));
+        taken("a clock", x -> x.slipped(0, 0, 1, many, 0));
+        taken("a zero", x -> x.slipped(0, 0, 1, many, 1));
+        taken("neighbour", x -> x.neighbour(0, 0, 1, many));
+        taken("led", x -> x.led(0, 0, 1, many));
+        taken("led to none", x -> x.led(0, 0, 0, 1));
+        taken("ask", x -> flag(x.ask(0, 0, 0, false, NONE, 0, 0, 0)));
+        taken("spread", x -> x.spread(0, 0, 0, 9));
+        taken("spread over none", x -> x.spread(0, 0, 5, 5));
+        taken("trade", x -> x.trade(1));
+        taken("trade by none", x -> x.trade(0));
+        taken("orders", x -> x.orders(0));
+        taken("obey", x -> x.obey(0, 0));
+    }
+
+    private static void callsThatTellAlone() {
+        Furnished.tellsAlone("status", x -> x.told(0, 0) + x.status());
+        Furnished.tellsAlone("top", x -> x.told(0, 0) + x.top());
+        Furnished.tellsAlone("bottom", x -> x.told(0, 0) + x.bottom());
+        Furnished.tellsAlone("fault", x -> x.told(0, 0) + x.fault(0) + x.fault(1) + x.fault(2));
+        Furnished.tellsAlone("read", x -> x.read(0, 0));
+        Furnished.tellsAlone("pour of none", x -> flag(x.pour(0, 0, 1, 0, 0)));
+        Furnished.tellsAlone("pour onto itself", x -> flag(x.pour(0, 0, 0, 0, Furnished.READINGS)));
+        Furnished.tellsAlone("told", x -> x.told(1, 3));
+        Furnished.tellsAlone("wave", x -> x.wave(0, 0, 4));
+        Furnished.tellsAlone("place", x -> x.place(0, 0, 9, true));
+        Furnished.tellsAlone("height", x -> x.height(0, 9, true));
+        Furnished.tellsAlone("pointer", x -> x.pointer(0, 0, 9));
+        Furnished.tellsAlone("trained", x -> x.trained(3));
+        Furnished.tellsAlone("shared", x -> x.shared(1));
+        Furnished.tellsAlone("changed", x -> x.changed(0, 0, 0, 0, 1, 0, 1, Furnished.READINGS, 0));
+        Furnished.tellsAlone("slip", x -> x.slip());
+        Furnished.tellsAlone("lag", x -> x.lag());
+        Furnished.tellsAlone("wheel", x -> x.wheel(0) + x.wheel(1));
+        Furnished.tellsAlone("extreme", x -> x.extreme(0, 0, 99, true, true));
+        Furnished.tellsAlone("bounds", x -> x.bounds(0, 9, 1, 1));
+        Furnished.tellsAlone("landing", x -> x.landing(0, 0, 1999));
+        Furnished.tellsAlone("spreadTold", x -> x.spreadTold(0) + x.spreadTold(1) + x.spreadTold(2));
+        Furnished.tellsAlone("compare", x -> x.compare(0, 99, 0));
+        Furnished.tellsAlone("compare with none", x -> x.compare(0, 99, 99999));
+        Furnished.tellsAlone("waters", x -> x.waters(0, 1, true, true));
+        Furnished.tellsAlone("water", x -> x.water(0, 1, true, true, 0));
+        Furnished.tellsAlone("range", x -> x.range(0, 1, true));
+        Furnished.tellsAlone("gap", x -> x.gap(0, 1, true, 0));
+        Furnished.tellsAlone("worn", x -> x.worn(0, 0, 0, 99));
+        Furnished.tellsAlone("lasts", x -> x.lasts(0, 99));
+        Furnished.tellsAlone("traded", x -> x.traded(0));
+        Furnished.tellsAlone("obeyed", x -> x.obeyed(0));
+        Furnished.tellsAlone("marked", x -> x.marked(2));
+        Furnished.tellsAlone("table", x -> x.table(0, 1, 0, 1));
     }
 
     private static void fraction() {
