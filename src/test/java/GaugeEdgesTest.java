@@ -26,6 +26,7 @@ public final class GaugeEdgesTest {
         settingsWaves();
         settingsNotParted();
         settingsParted();
+        settingsJustParted();
         settingsGreatest();
         changedNumber();
         changedByMore();
@@ -366,6 +367,25 @@ public final class GaugeEdgesTest {
             Rig.fraction("sin", x, sum, sum == 0 ? 1 : 24);
             Rig.fine("cos", x, x.settings(0, 0, 0, 0, 1, 4, 1));
             Rig.fraction("cos", x, 5, 12);
+        }
+    }
+
+    /** Five readings whose determinant is 1: the least bottom with which two WAVES are PARTED. */
+    private static void settingsJustParted() {
+        Rig.says("none, if there are several such (the WAVES can't be PARTED by these HOURS).");
+        String waves = "wave a turns 1 in 24; wave b turns 1 in 576;";
+        long[][] reads = {{1, 0, 0, 0, 0}, {0, 1, 0, 0, 0}, {0, 0, 0, 0, 1}, {999, -999, 999, -999, 999}};
+        long[][] parts = {
+            {-15834, -3618, -2613, 2042, -2500}, {5878, 1343, 970, -758, 928}, {-1387, -317, -229, 179, -219},
+            {1163835, 265734, 191808, -149850, 183816}
+        };
+        for (int i = 0; i < reads.length; i++) {
+            TideDiscs x = with(waves, row(253, 511, 280, 429, 526), reads[i]);
+            for (int what = 0; what < 5; what++) {
+                Rig.fine("just parted, what " + what, x, x.settings(0, 0, 1, 0, 1, 5, what));
+                Rig.fraction("just parted, what " + what, x, parts[i][what], 1);
+            }
+            Rig.fine("nothing changed", x, x.changed(0, 0, 1, 0, 1, 0, 1, 5, 0), 0);
         }
     }
 
